@@ -959,8 +959,8 @@ public final class ZoneDesk {
             row[FLAG_AT] = (byte) (save != 0 ? 1 : 0);
             end = NAME_AT;
             addName(era.format, save, offset, rule == null ? "" : rule.letters);
-            while (end < SIZE) {
-                addCharacter((char) 0);
+            for (int i = end; i < SIZE; i++) {
+                row[i] = 0;
             }
         }
 

@@ -41,7 +41,7 @@ public final class LineTest {
             CHECK.due("2: write " + c, c >= 32 && c <= 126, new ZoneDesk().write((char) c));
         }
         CHECK.due("2: write 65535", false, desk.write((char) 65535));
-        CHECK.due("2: write 65536 + 65 is no char of 16 bits", true, desk.write((char) (65536 + 32)));
+        CHECK.due("2: the first", true, desk.write(' '));
         for (int i = 1; i < 60; i++) {
             CHECK.due("2: blank " + i, true, desk.write(' '));
             CHECK.due("2: one that is none", false, desk.write('\n'));
