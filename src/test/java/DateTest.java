@@ -38,7 +38,9 @@ public final class DateTest {
         CHECK.due("14: last", "9999-12-31T23:59:59+00:00", Check.date(desk, 253402300799L));
         CHECK.due("14: behind it", "", Check.date(desk, 253402300800L));
         for (long t : new long[] {Long.MIN_VALUE, Long.MAX_VALUE, 1000000000000000L, -1000000000000001L, 1L << 40}) {
-            CHECK.due("14: " + t, "", Check.date(desk, t));
+            CHECK.due("14: " + t, -1, desk.date(t, 0));
+            CHECK.due("14: " + t, -1, Check.desk("Z 24 - A").date(t, 24));
+            CHECK.due("14: " + t, -1, Check.desk("Z -24 - A").date(t, 24));
         }
         ZoneDesk ahead = Check.desk("Z 1 - A");
         CHECK.due("14: the local year counts", "0000-01-01T00:00:00+01:00", Check.date(ahead, -62167222800L));

@@ -15,6 +15,7 @@ public final class ImageTest {
         wrongArguments();
         steps();
         crowded();
+        manyTypes();
         CHECK.finish();
     }
 
@@ -96,6 +97,12 @@ public final class ImageTest {
         // An era ends as a firing comes that its own set has too.
         desk = Check.desk("R 0 1980 only Mar 1 0u 1 X", "Z 0 0 %s 1980 Mar 1 0u", "Z 0 0 %s");
         CHECK.due("10: an era's end and a firing at one instant", 1, desk.compile());
+        desk = Check.desk("R 0 1980 only Mar 1 0u 1 X", "Z 0 0 %s 1980 Mar 1 0u", "Z 5 - B");
+        CHECK.due("10: a firing that comes just too late for its era", 1, desk.compile());
+        CHECK.due("11: its type is not there", 2 + 5 + 1 + 26, desk.bytes());
+        desk = Check.desk("Z 1 - A 1990 Jan 1 0u", "Z 2 - B 1990 Jan 1 0u", "Z 3 - C");
+        CHECK.due("10: two eras that end at one instant", 1, desk.compile());
+        CHECK.due("11: the second is not there", 2 + 5 + 1 + 26, desk.bytes());
     }
 
     private static void typesByAllThree() {
@@ -182,5 +189,23 @@ public final class ImageTest {
         CHECK.due("10: crowded", due.changes().size(), desk.compile());
         CHECK.due("10: more than four hundred", true, due.changes().size() >= 408);
         CHECK.due("12: crowded", Arrays.toString(due.bytes()), Arrays.toString(Check.image(desk)));
+    }
+
+    /** Every era passes through all that its set can make of it. */
+    private static void manyTypes() {
+        ZoneDesk desk = new ZoneDesk();
+        Model model = new Model();
+        for (int rule = 0; rule < 18; rule++) {
+            int year = 1971 + rule / 6 * 10 + rule % 6;
+            String text = "R " + rule / 6 + " " + year + (rule < 6 ? " max" : " only") + " Mar " + (1 + rule) + " 0 0 L" + rule;
+            CHECK.due("3: " + text, model.line(text), Check.line(desk, text));
+        }
+        for (String text : new String[] {"Z 1 0 A%s 1980", "Z 2 1 B%s 1990", "Z 3 2 C%s 2000", "Z 4 0 D%s"}) {
+            CHECK.due("3: " + text, model.line(text), Check.line(desk, text));
+        }
+        Model.Compiled due = (Model.Compiled) model.compile();
+        CHECK.due("10: many types", due.changes().size(), desk.compile());
+        CHECK.due("10: seven for each era, six for the last", 27, due.types().size());
+        CHECK.due("12: many types", Arrays.toString(due.bytes()), Arrays.toString(Check.image(desk)));
     }
 }
