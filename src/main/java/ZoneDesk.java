@@ -803,10 +803,6 @@ public final class ZoneDesk {
             return (rule.nominalIn(year) << RULE_BITS) + ruleCount;
         }
 
-        private long nominalOf(int firing) {
-            return firings[firing] >> RULE_BITS;
-        }
-
         /** Null when there is no such firing. */
         Rule ruleOf(int firing) {
             if (firing < 0 || firing >= firingCount) {
@@ -816,18 +812,14 @@ public final class ZoneDesk {
             return place < ruleCount ? ruleRow[place] : null;
         }
 
-        private int saveOf(int firing) {
-            Rule rule = ruleOf(firing);
-            return rule == null ? 0 : rule.save;
-        }
-
         /** The instant of a firing in an era with an offset. */
         long instantOf(int firing, int off) {
             Rule rule = ruleOf(firing);
             if (rule == null) {
                 return NO_INSTANT;
             }
-            return rule.clock.toInstant(nominalOf(firing), off, saveOf(firing - 1));
+            Rule before = ruleOf(firing - 1);
+            return rule.clock.toInstant(firings[firing] >> RULE_BITS, off, before == null ? 0 : before.save);
         }
 
         /** How many firings have a nominal time that is at most so far behind a limit. */
@@ -836,7 +828,7 @@ public final class ZoneDesk {
             int high = firingCount;
             while (low < high) {
                 int middle = (low + high) / 2;
-                if (nominalOf(middle) - reach <= limit) {
+                if ((firings[middle] >> RULE_BITS) - reach <= limit) {
                     low = middle + 1;
                 } else {
                     high = middle;
@@ -847,7 +839,8 @@ public final class ZoneDesk {
 
         /** The save of the last firing whose nominal time is not above a nominal time. */
         int saveByNominal(long nominal) {
-            return saveOf(countUpTo(nominal, 0L) - 1);
+            Rule rule = ruleOf(countUpTo(nominal, 0L) - 1);
+            return rule == null ? 0 : rule.save;
         }
 
         /** The last firing in order whose instant is not above one; -1 when there is none. */
@@ -1056,7 +1049,6 @@ public final class ZoneDesk {
         }
 
         void begin() {
-            length = 0;
             changeCount = 0;
             typeCount = 0;
             lastType = -1;

@@ -13,13 +13,19 @@ final class Check {
 
     private int wrong;
     private int asked;
+    private String sentence = "";
+
+    /** The sentence of the document that the answers from here on are due by. */
+    void sentence(String text) {
+        sentence = "\"" + text + "\": ";
+    }
 
     void due(String what, Object want, Object got) {
         asked++;
         if (!Objects.equals(want, got)) {
             wrong++;
             if (wrong <= 50) {
-                System.out.println(what + " answered " + got + ", due is " + want);
+                System.out.println(sentence + what + " answered " + got + ", due is " + want);
             }
         }
     }
@@ -93,6 +99,27 @@ final class Check {
             bytes[i] = (byte) desk.image(i);
         }
         return bytes;
+    }
+
+    /** What a desk answers on all that can be asked without its draft: alike for desks alike. */
+    static String told(ZoneDesk desk, long... times) {
+        StringBuilder all = new StringBuilder();
+        for (int set = 0; set < 3; set++) {
+            all.append(desk.rules(set)).append(' ');
+        }
+        all.append(desk.eras()).append(' ').append(java.util.Arrays.toString(image(desk)));
+        for (long t : times) {
+            for (int what = 0; what < 4; what++) {
+                int asked = what;
+                all.append(' ').append(answerOf(() -> desk.holds(t, asked)));
+                all.append(' ').append(answerOf(() -> desk.look(t, asked)));
+            }
+            all.append(' ').append(name(desk, t)).append(' ').append(date(desk, t)).append(' ').append(desk.shown(t));
+            for (int k = 0; k < desk.shown(t); k++) {
+                all.append(' ').append(kth(desk, t, k));
+            }
+        }
+        return all.toString();
     }
 
     static Object kth(ZoneDesk desk, long local, int k) {
