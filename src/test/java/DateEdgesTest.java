@@ -37,6 +37,13 @@ public final class DateEdgesTest {
             CHECK.due("date " + first + " and a day less a second", day + "T23:59:59+00:00", Check.date(desk, first + 86399));
             CHECK.due("read " + day, first, Check.read(desk, day + "T00:00:00+00:00"));
         }
+        for (int year : new int[] {0, 1900, 2000, 2023, 2024, 9999}) {
+            java.time.LocalDate first = java.time.LocalDate.of(year, 1, 1);
+            for (int day = 0; day < first.lengthOfYear(); day++) {
+                long second = first.plusDays(day).toEpochDay() * 86400L;
+                CHECK.due("date " + second, first.plusDays(day) + "T00:00:00+00:00", Check.date(desk, second));
+            }
+        }
         CHECK.due("no leap day in 1500", Check.IAE, Check.read(desk, "1500-02-29T00:00:00+00:00"));
         CHECK.due("the day behind the 28th of February 1500", "1500-03-01T00:00:00+00:00",
             Check.date(desk, Check.at("1500-02-28T00:00:00") + 86400));

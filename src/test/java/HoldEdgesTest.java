@@ -408,6 +408,11 @@ public final class HoldEdgesTest {
             CHECK.due("a name of three, " + asked[i], three[i], desk.letter(0, asked[i]));
             CHECK.due("an empty name, " + asked[i], -1, desk.letter(FAR, asked[i]));
         }
+        // A save that is not 0 and an offset of many bytes must not be taken for characters before the name.
+        ZoneDesk saving = Check.desk("Z -24:59:59 -24:59:59 ABC");
+        for (int i = -20; i <= 20; i++) {
+            CHECK.due("with a save, " + i, i < 0 || i > 2 ? -1 : 'A' + i, saving.letter(0, i));
+        }
     }
 
     private static void shownWithoutEra() {
