@@ -545,10 +545,11 @@ public final class ZoneDesk {
 
         /** The colon and the two digits that stand at a place. */
         private static int sixtieths(String word, int at) {
-            if (at >= word.length() || word.charAt(at) != ':') {
+            if (at + 3 > word.length() || word.charAt(at) != ':') {
                 return BAD;
             }
-            return number(word, at + 1, at + 3, 59);
+            int value = digits(word, at + 1, at + 3);
+            return value > 59 ? BAD : value;
         }
 
         static int year(String word) {
