@@ -7,7 +7,7 @@ import java.util.List;
 import java.util.regex.Matcher;
 import java.util.regex.Pattern;
 
-/** What README.md shows is so: its example, its table of words and its table of calls. */
+/** The example of README.md answers what it says, its words are taken, and its table names every call. */
 public final class ReadmeTest {
     private static final Check CHECK = new Check();
     private static final Pattern LINE = Pattern.compile("\"([RZ] [^\"]*)\"");
